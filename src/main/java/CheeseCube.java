@@ -675,13 +675,11 @@ public final class CheeseCube {
 
         /** The CELL at PLACES of an AXIS that is so far along it, or NONE. */
         int cellOn(int axis, int along, int u, int v) {
-            if (!hasPlaces(axis, u, v) || along < 0 || along >= size(axis)) {
-                return NONE;
-            }
-            if (axis == 0) {
-                return 36 * v + 6 * u + along;
-            }
-            return axis == 1 ? 36 * v + 6 * along + u : 36 * along + 6 * v + u;
+            int x = axis == 0 ? along : u;
+            int y = axis == 0 ? u : axis == 1 ? along : v;
+            int z = axis == 2 ? along : v;
+            boolean inside = x >= 0 && x < sizeX && y >= 0 && y < sizeY && z >= 0 && z < sizeZ;
+            return inside && axis >= 0 && axis <= 2 ? 36 * z + 6 * y + x : NONE;
         }
 
         /** The k-th CELL that a HOLE or a SCREW goes through, or NONE. */
@@ -808,8 +806,8 @@ public final class CheeseCube {
         }
 
         void copyFrom(Cells other) {
-            for (int z = 0; z < layers.length; z++) {
-                layers[z] = other.layer(z);
+            for (int z = 0; z < layers.length && z < other.layers.length; z++) {
+                layers[z] = other.layers[z];
             }
         }
 
@@ -844,8 +842,8 @@ public final class CheeseCube {
         }
 
         void dropAll(Cells others) {
-            for (int z = 0; z < layers.length; z++) {
-                layers[z] &= ~others.layer(z);
+            for (int z = 0; z < layers.length && z < others.layers.length; z++) {
+                layers[z] &= ~others.layers[z];
             }
         }
 
@@ -1202,18 +1200,25 @@ public final class CheeseCube {
             }
         }
 
-        /** The LAW that the TAPE tells, or null; FAULT tells which. */
+        /** The LAW that the TAPE tells, or null; FAULT is where its reading stopped. */
         Law readLaw() {
             stepsMany = 0;
             clausesMany = 0;
             partsMany = 0;
-            fault = NONE;
             tokenTo = 0;
             nextToken();
-            if (!readClauses()) {
-                fault = tokenFrom;
-                return null;
+            boolean more = true;
+            boolean whole = false;
+            for (int clause = 0; clause < CLAUSE_LIMIT && more; clause++) {
+                boolean good = readClause();
+                whole = good && tokenKind == AT_END;
+                more = good && passSign(';');
             }
+            fault = whole ? NONE : tokenFrom;
+            return whole ? lawAsRead() : null;
+        }
+
+        private Law lawAsRead() {
             int[] ownSteps = new int[Math.max(stepsMany, 0)];
             for (int at = 0; at < ownSteps.length && at < steps.length; at++) {
                 ownSteps[at] = steps[at];
@@ -1226,21 +1231,6 @@ public final class CheeseCube {
         }
 
         /** The readers stop at the first TOKEN that can't go on, so that it is the FAULT. */
-        private boolean readClauses() {
-            for (int clause = 0; clause < CLAUSE_LIMIT; clause++) {
-                if (!readClause()) {
-                    return false;
-                }
-                if (tokenKind == AT_END) {
-                    return true;
-                }
-                if (!passSign(';')) {
-                    return false;
-                }
-            }
-            return false;
-        }
-
         private boolean readClause() {
             int from = stepsMany;
             int kind = isWord("weighs") ? Law.WEIGHS : isWord("takes") ? Law.TAKES : isWord("shuts") ? Law.SHUTS : NONE;
