@@ -995,7 +995,8 @@ public final class CheeseCube {
         static final int CLAUSE_WIDTH = 4;
 
         private static final long SUM_LIMIT = 1000000000L;
-        private static final long BROKEN = Long.MIN_VALUE;
+        /** Farther out than any SUM, and than any product of two. */
+        private static final long BROKEN = 1L << 62;
         private static final long WEIGHT_LIMIT = 99;
         private static final int STACK_LIMIT = 64;
 
@@ -1643,9 +1644,9 @@ public final class CheeseCube {
                 ways = 1;
                 return;
             }
-            tryOne(goal, n);
+            searchByOne(goal, n);
             if (ways == 0) {
-                tryTwo(goal, n);
+                searchByTwo(goal, n);
             }
         }
 
@@ -1709,7 +1710,7 @@ public final class CheeseCube {
             cells.dropLine(line / 36, line / 6 % 6, line % 6);
         }
 
-        private void tryOne(int goal, int n) {
+        private void searchByOne(int goal, int n) {
             for (int i = 0; i < linesMany; i++) {
                 byOne.copyFrom(cheese.present());
                 take(byOne, lineAt(i));
@@ -1719,7 +1720,7 @@ public final class CheeseCube {
             }
         }
 
-        private void tryTwo(int goal, int n) {
+        private void searchByTwo(int goal, int n) {
             for (int i = 0; i < linesMany; i++) {
                 byOne.copyFrom(cheese.present());
                 take(byOne, lineAt(i));
