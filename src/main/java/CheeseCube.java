@@ -391,8 +391,9 @@ public final class CheeseCube {
 
     /** What stands, in numbers. */
     public int count(int what) {
-        if (what >= 8 && what <= 12) {
-            return refusals[what - 8];
+        int refusal = what - 8;
+        if (what >= 8 && refusal < refusals.length) {
+            return refusals[refusal];
         }
         switch (what) {
             case 0:
@@ -1057,12 +1058,18 @@ public final class CheeseCube {
         }
 
         private void setWords(Held held, int cell, int holes) {
-            words[X] = cell % 6;
-            words[Y] = cell / 6 % 6;
-            words[Z] = cell / 36;
-            words[HOLES] = holes;
-            words[RIND] = Integer.bitCount(held.sidesOf(cell));
-            words[DAY] = held.day();
+            setWord(X, cell % 6);
+            setWord(Y, cell / 6 % 6);
+            setWord(Z, cell / 36);
+            setWord(HOLES, holes);
+            setWord(RIND, Integer.bitCount(held.sidesOf(cell)));
+            setWord(DAY, held.day());
+        }
+
+        private void setWord(int kind, int value) {
+            if (kind >= 0 && kind < words.length) {
+                words[kind] = value;
+            }
         }
 
         private int clausePart(int clause, int what) {
@@ -1104,7 +1111,7 @@ public final class CheeseCube {
                     high--;
                 }
             }
-            return high == 1 ? stack[0] : BROKEN;
+            return high == 1 && stack.length > 0 ? stack[0] : BROKEN;
         }
 
         private int wordOf(int kind) {
@@ -1220,11 +1227,11 @@ public final class CheeseCube {
         }
 
         private Law lawAsRead() {
-            int[] ownSteps = new int[Math.max(stepsMany, 0)];
+            int[] ownSteps = new int[Math.max(0, Math.min(stepsMany, TAPE_LIMIT))];
             for (int at = 0; at < ownSteps.length && at < steps.length; at++) {
                 ownSteps[at] = steps[at];
             }
-            int[] ownClauses = new int[Math.max(clausesMany, 0) * Law.CLAUSE_WIDTH];
+            int[] ownClauses = new int[Math.max(0, Math.min(clausesMany, CLAUSE_LIMIT)) * Law.CLAUSE_WIDTH];
             for (int at = 0; at < ownClauses.length && at < clauses.length; at++) {
                 ownClauses[at] = clauses[at];
             }
@@ -1819,7 +1826,7 @@ public final class CheeseCube {
                     due |= 1 << place;
                 }
             }
-            int found = due < best.length ? best[due] : TOO_MANY;
+            int found = due >= 0 && due < best.length ? best[due] : TOO_MANY;
             return found < TOO_MANY ? found : NONE;
         }
 
