@@ -70,11 +70,11 @@ public final class AllTests {
         test("all promises: any numbers in any state", ExtremeTest::run);
         test("all promises: runs beside the model", checks -> ModelTest.run(checks, runs, seed));
         test("promises 10, 11, 13, 14: texts", checks -> DrawnTest.texts(checks, runs, seed));
-        test("promises 16, 20, 21, 22, 26: boxes", checks -> DrawnTest.boxes(checks, runs, seed));
-        test("promise 23: fewest", checks -> DrawnTest.fewest(checks, runs, seed));
-        test("promise 25: views", checks -> DrawnTest.views(checks, runs, seed));
-        test("promise 27: wires", checks -> DrawnTest.wires(checks, runs, seed));
-        test("promise 33: ants", checks -> DrawnTest.ants(checks, runs, seed));
+        test("promises 16, 20, 21, 22, 26: boxes", checks -> DrawnTest.boxes(checks, 5 * runs, seed));
+        test("promise 23: fewest", checks -> DrawnTest.fewest(checks, 2 * runs, seed));
+        test("promise 25: views", checks -> DrawnTest.views(checks, 5 * runs, seed));
+        test("promise 27: wires", checks -> DrawnTest.wires(checks, 5 * runs, seed));
+        test("promise 33: ants", checks -> DrawnTest.ants(checks, 2 * runs, seed));
         test("the public face", SourceTest::face);
         test("LANGUAGE.md: classes, fields, parameters", SourceTest::shape);
         test("LANGUAGE.md: words", SourceTest::words);

@@ -220,6 +220,8 @@ final class CountTest {
         c.due("x -2", box.fits(-2), -1);
         box.told(0, 4, 5);
         box.told(1, 4, 5);
+        box.told(0, 3, 1);
+        box.told(1, 2, 1);
         c.due("told beyond the box: nothing", box.fits(-1), 2);
         box.hole(2, 0, 0, 0, 1, 0);
         c.due("HOLES aside", box.fits(-1), 2);

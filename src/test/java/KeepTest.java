@@ -138,6 +138,26 @@ final class KeepTest {
             isFull(c, box);
         }
         whatPromise37LeavesAlone(c, box);
+        lawsOfPromise37(c);
+    }
+
+    /** The same number is another LAW in another IMAGE. */
+    private static void lawsOfPromise37(Checks c) {
+        CheeseCube box = new CheeseCube();
+        box.image(0);
+        Tape.law(box, "takes if x = 0");
+        box.force(0);
+        box.image(1);
+        box.back(0);
+        c.due("no LAW in FORCE", box.left(0), 125);
+        c.due("the first again", Tape.law(box, "takes if x < 3"), 0);
+        box.force(0);
+        c.due("another LAW", box.left(0), 50);
+        box.image(0);
+        box.back(1);
+        c.due("the LAW of the second IMAGE", box.left(0), 100);
+        box.back(0);
+        c.due("the LAW of the first IMAGE", box.left(0), 50);
     }
 
     private static void whatPromise37LeavesAlone(Checks c, CheeseCube box) {

@@ -112,8 +112,30 @@ final class SearchTest {
         views(c, box, 12, 1, 1, -1);
         box.terms(1, 1);
         views(c, box, 3, 1, 1, 3);
+        for (int axis = 0; axis < 3; axis++) {
+            eachAlone(c, axis);
+        }
         c.due("views(4)", box.views(4), -1);
         c.due("views(-1)", box.views(-1), -1);
+    }
+
+    /** A single dark place can't be; each question is asked first behind a change. */
+    private static void eachAlone(Checks c, int axis) {
+        CheeseCube box = BoxTest.box(6, 6, 6);
+        int[] places = {0, 5, 30, 35, 14};
+        for (int place : places) {
+            box.view(axis, place / 6, place % 6, 1);
+            c.due("a dark place alone", box.views(1), 0);
+            box.view(axis, place / 6, place % 6, 0);
+            c.due("light again", box.views(1), 1);
+        }
+        for (int i = 0; i < 3; i++) {
+            box.view(i, 2, 2, 1);
+        }
+        c.due("a cell", box.views(2), 1);
+        box.view(axis, 2, 2, 0);
+        c.due("none", box.views(2), 0);
+        c.due("none to be seen", box.views(0), 0);
     }
 
     private static void wire(Checks c, CheeseCube box, int... due) {

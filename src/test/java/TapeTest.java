@@ -302,6 +302,7 @@ final class TapeTest {
     }
 
     static void tests(Checks c) {
+        c.due("the twelfth clause", under("shuts;".repeat(11) + "takes").left(0), 0);
         takes(c, "x = 0", 25);
         takes(c, "x < 2", 50);
         takes(c, "x > 2", 50);
