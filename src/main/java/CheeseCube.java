@@ -1077,9 +1077,14 @@ public final class CheeseCube {
             return at >= 0 && at < clauses.length ? clauses[at] : 0;
         }
 
+        /** The value of steps, or BROKEN. */
         private long run(int from, int to) {
             int high = 0;
+            int onward = from;
             for (int at = Math.max(from, 0); at < to && at < steps.length; at++) {
+                if (at < onward) {
+                    continue;
+                }
                 int kind = steps[at] & 255;
                 if (kind <= DAY) {
                     if (high < 0 || high >= stack.length) {
@@ -1095,7 +1100,7 @@ public final class CheeseCube {
                     if (kind == NOT) {
                         stack[high - 1] = 1 - top;
                     } else if (top == (kind == OR ? 1 : 0)) {
-                        at = Math.max(at, (steps[at] >> 8) - 1);
+                        onward = steps[at] >> 8;
                     } else {
                         high--;
                     }
