@@ -1967,14 +1967,18 @@ public final class CheeseCube {
             if (many > WIRE_LIMIT) {
                 return NONE;
             }
-            boolean found = many > 0 && findWire(many);
+            boolean found = findWire(many);
             if (i == NONE) {
                 return found ? 1 : 0;
             }
             return found && i >= 0 && i < many && i < path.length ? path[i] : NONE;
         }
 
+        /** The row of no CELLS goes through all, where none is LEFT. */
         private boolean findWire(int many) {
+            if (many == 0) {
+                return true;
+            }
             free.copyFrom(cheese.present());
             for (int cell = 0; cell < CELL_LIMIT; cell++) {
                 if (free.has(cell) && goesOn(free, path, cell, 0, many)) {

@@ -757,7 +757,7 @@ final class Model {
             return NONE;
         }
         List<Integer> path = new ArrayList<>();
-        boolean found = !cells.isEmpty() && goOn(path, cells);
+        boolean found = goOn(path, cells);
         if (i == NONE) {
             return found ? 1 : 0;
         }

@@ -167,7 +167,16 @@ final class SearchTest {
         wire(c, two, 1, 0, -1);
         CheeseCube none = BoxTest.box(1, 1, 1);
         none.hole(0, 0, 0, 0, 1, 0);
-        wire(c, none, 0, 0, -1);
+        c.due("no cell", none.left(0), 0);
+        wire(c, none, 0, 1, -1, -1);
+        c.due("no cell, i 13", none.wire(13), -1);
+        c.due("no cell, i -3", none.wire(-3), -1);
+        CheeseCube allTaken = new CheeseCube();
+        allTaken.force(Tape.law(allTaken, "takes"));
+        c.due("all taken", allTaken.left(0), 0);
+        wire(c, allTaken, 0, 1, -1);
+        allTaken.force(-1);
+        wire(c, allTaken, 0, -1, -1);
         CheeseCube large = new CheeseCube();
         large.hole(0, 0, 0, 0, 1, 0);
         c.due("62 and 62", large.wire(-2), 0);
