@@ -2,14 +2,14 @@
 public final class AllTests {
     private static int failed;
 
-    private interface Test {
+    interface Test {
         void run(Checks checks) throws Exception;
     }
 
     private AllTests() {
     }
 
-    private static void test(String name, Test test) {
+    static void test(String name, Test test) {
         Checks checks = new Checks(name);
         String thrown = "";
         try {
@@ -65,6 +65,7 @@ public final class AllTests {
         test("promise 37: back", KeepTest::promise37);
         test("promise 38: count", KeepTest::promise38);
         test("promise 39: status", KeepTest::promise39);
+        Edges.runAll();
         test("promises 10, 13: what SUMS come to", TapeTest::sums);
         test("promises 10, 13: what TESTS come to", TapeTest::tests);
         test("all promises: any numbers in any state", ExtremeTest::run);
