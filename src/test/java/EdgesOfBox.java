@@ -232,6 +232,12 @@ final class EdgesOfBox {
                 c.due("SIDE " + side + " with a HOLE", box.wax(1 << side, 1), size[side / 2] - gone[side]);
             }
         });
+        e.edge(20, "WAX on SIDES of the BOX", "each side of a BOX of six alone", c -> {
+            for (int side = 0; side < 6; side++) {
+                c.due("SIDE " + side, BoxTest.box(6, 6, 6).wax(1 << side, 1), 36);
+                c.due("others", BoxTest.box(6, 6, 6).wax(1 << side, 0), 180);
+            }
+        });
         e.edge(20, "CELLS that are LEFT with just so many red sides", "none LEFT, a HOLE is no red side", c -> {
             for (int many = 0; many <= 6; many++) {
                 c.due("none LEFT", noneLeft().wax(63, many), 0);
@@ -279,6 +285,18 @@ final class EdgesOfBox {
             c.due("y 5 and y 0 of the next z", under(BoxTest.box(6, 6, 6), "takes if y>0 and y<5").pieces(-1, 0), 2);
             c.due("z 0 and z 5", under(BoxTest.box(6, 6, 6), "takes if z>0 and z<5").pieces(-1, 0), 2);
             c.due("x, y, z each", under(BoxTest.box(2, 2, 2), "takes if x=1 and z=0 or y=1 and z=1").pieces(-1, 0), 1);
+        });
+        e.edge(22, "hang together by sides", "about a corner, up and down along each AXIS", c -> {
+            String[] gaps = {"x=1 and y=0", "x=1 and y=1", "y=1 and x=0", "y=1 and x=1"};
+            int[][] flat = {{3, 2, 1}, {3, 2, 1}, {2, 3, 1}, {2, 3, 1}};
+            for (int i = 0; i < gaps.length; i++) {
+                c.due(gaps[i], under(BoxTest.box(flat[i][0], flat[i][1], 1), "takes if " + gaps[i]).pieces(-1, 0), 1);
+            }
+            c.due("x=1, z=0", under(BoxTest.box(3, 1, 2), "takes if x=1 and z=0").pieces(-1, 0), 1);
+            c.due("x=1, z=1", under(BoxTest.box(3, 1, 2), "takes if x=1 and z=1").pieces(-1, 0), 1);
+            c.due("y=1, z=0", under(BoxTest.box(1, 3, 2), "takes if y=1 and z=0").pieces(-1, 0), 1);
+            c.due("z=1, x=0", under(BoxTest.box(2, 1, 3), "takes if z=1 and x=0").pieces(-1, 0), 1);
+            c.due("z=1, y=1", under(BoxTest.box(1, 2, 3), "takes if z=1 and y=1").pieces(0, 0), 5);
         });
         e.edge(22, "in order of their lowest CELLS", "a PIECE with the greatest CELL is the first", c -> {
             CheeseCube box = under(BoxTest.box(3, 3, 3), "takes if not (x=0 and y=0 or y=0 and z=2 or x=2 and y=2 and z=0)");

@@ -268,6 +268,28 @@ final class EdgesOfKeeping {
             box.back(1);
             c.due("none in FORCE", box.count(13), -1);
         });
+        e.edge(37, "BACK to one all that it keeps is as it was then", "the same number is another LAW in each IMAGE", c -> {
+            CheeseCube box = new CheeseCube();
+            box.image(0);
+            for (int i = 0; i < 6; i++) {
+                Tape.law(box, "weighs " + (10 + i));
+            }
+            box.image(1);
+            box.back(0);
+            for (int i = 0; i < 6; i++) {
+                Tape.law(box, "weighs " + (20 + i));
+            }
+            box.image(0);
+            for (int i = 0; i < 6; i++) {
+                box.back(1);
+                box.force(i);
+                c.due("IMAGE 1, LAW " + i, box.cell(0, 1), 10 + i);
+                box.back(0);
+                c.due("none in FORCE", box.cell(0, 1), 1);
+                box.force(i);
+                c.due("IMAGE 0, LAW " + i, box.cell(0, 1), 20 + i);
+            }
+        });
         e.edge(37, "BACK to one all that it keeps is as it was then", "ROWS, SCREWS, VIEWS, COUNTS", c -> {
             CheeseCube box = new CheeseCube();
             box.tally(0, 0, 0, 4);

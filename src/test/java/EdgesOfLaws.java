@@ -212,6 +212,23 @@ final class EdgesOfLaws {
             good(c, "weighs [[1]]" + "+[[1]]".repeat(49));
             bad(c, "weighs [[1]]" + "+[[1]]".repeat(50), 309);
         });
+        e.edge(10, "50 PARTS that are NUMBERS and words (FAULT at the 51st)", "and 12 clauses, of each TEXT anew", c -> {
+            CheeseCube box = new CheeseCube();
+            for (int i = 0; i < 3; i++) {
+                c.due("50", Tape.law(box, "weighs 1" + "+1".repeat(49)), 2 * i);
+                c.due("51", Tape.law(box, "weighs 1" + "+1".repeat(50)), -6);
+                c.due("the 51st", box.fault(), 107);
+                c.due("12", Tape.law(box, "shuts;".repeat(11) + "weighs 7 if x=0 or y=0"), 2 * i + 1);
+                c.due("13", Tape.law(box, "takes;".repeat(13)), i == 2 ? -5 : -6);
+                box.force(2 * i);
+                c.due("50", box.cell(0, 1), 50);
+                c.due("not SHUT", box.cell(0, 2), 0);
+                box.force(2 * i + 1);
+                c.due("7", box.cell(24, 1), 7);
+                c.due("1", box.cell(25, 1), 1);
+                c.due("SHUT", box.cell(25, 2), 1);
+            }
+        });
         e.edge(10, "8 brackets of both kinds within one another (FAULT at the 9th) at most", "8 and 9 of one kind", c -> {
             good(c, "takes if " + "(".repeat(8) + "x=1" + ")".repeat(8));
             bad(c, "takes if " + "(".repeat(9) + "x=1" + ")".repeat(9), 17);
@@ -433,6 +450,17 @@ final class EdgesOfLaws {
             takes(c, "1<1/0", 0);
             takes(c, "(1/0=1) or (x=x)", 0);
             takes(c, "x=1 or 1/x=1 or y=y", 100);
+        });
+        e.edge(13, "PLAIN: \"not\" PLAIN | \"(\" TEST \")\"", "not of what is so, of what is not, of not", c -> {
+            takes(c, "not x=0", 100);
+            takes(c, "not not x=0", 25);
+            takes(c, "not (not (x=0))", 25);
+            takes(c, "not (not x=0 or y=0)", 20);
+            takes(c, "not (x=0) and y=0", 20);
+            takes(c, "not (x=0) or y=0", 105);
+            takes(c, "not (not (x=0) and not (y=0))", 45);
+            takes(c, "not x=x", 0);
+            takes(c, "not " + "not ".repeat(95) + "x=0", 25);
         });
         e.edge(13, "SUM (\"<\" | \">\" | \"=\") SUM", "one less, the same, one more", c -> {
             takes(c, "x<2", 50);

@@ -100,6 +100,16 @@ final class EdgesOfPicks {
             box.screw(0, 4, 4, 0, 6);
             meets(c, box, 4, 3, 16 + 6);
         });
+        e.edge(30, "the most that never do (1), which, as bits (2)", "asked ahead of the pairs", c -> {
+            for (int what = 0; what <= 2; what++) {
+                CheeseCube box = new CheeseCube();
+                box.screw(0, 0, 0, 0, 6);
+                box.screw(1, 0, 0, 0, 6);
+                c.due("what " + what, box.meet(what), 1);
+                box.unscrew();
+                c.due("none: what " + what, box.meet(what), 0);
+            }
+        });
         e.edge(30, "two MEET, if they have a CELL in common", "the last CELL of each, one CELL short of it", c -> {
             for (int axis = 0; axis < 3; axis++) {
                 CheeseCube box = new CheeseCube();
@@ -238,6 +248,17 @@ final class EdgesOfPicks {
             fits(c, counts(BoxTest.box(6, 1, 1), new int[] {1, 1, 1, 1, 1, 1}, new int[] {6}), 1, 1, 1, 1, 1, 1, 1);
             fits(c, counts(BoxTest.box(1, 6, 1), new int[] {6}, new int[] {1, 1, 1, 1, 1, 1}), 1, 63, -1);
             fits(c, counts(BoxTest.box(6, 1, 1), new int[] {1, 1, 1, 0, 1, 1}, new int[] {6}), 0, -1);
+            for (int x = 0; x < 6; x++) {
+                for (int many = 2; many <= 6; many++) {
+                    CheeseCube box = BoxTest.box(6, 3, 1);
+                    box.told(0, x, 1);
+                    box.told(1, 0, many);
+                    fits(c, box, 0, -1, -1, -1, -1, -1, -1, -1);
+                    box.told(1, 0, 0);
+                    box.told(1, 1, many);
+                    fits(c, box, 0, -1, -1, -1, -1, -1, -1, -1);
+                }
+            }
         });
     }
 
@@ -248,6 +269,23 @@ final class EdgesOfPicks {
             fits(c, counts(BoxTest.box(3, 3, 1), new int[] {1, 1, 1}, new int[] {0, 2, 1}), 3, 2, 2, 4, -1);
             fits(c, counts(BoxTest.box(3, 3, 1), new int[] {0, 2, 1}, new int[] {1, 1, 1}), 3, 0, 3, 4, -1);
             fits(c, counts(BoxTest.box(4, 2, 1), new int[] {1, 1, 1, 1}, new int[] {2, 2}), 6, 1, 1, 2, 2, -1);
+        });
+        e.edge(32, "of those with that x, with that y, there are just so many", "one HOLE at each of 36 PLACES", c -> {
+            for (int i = 0; i < 36; i++) {
+                CheeseCube box = BoxTest.box(6, 6, 6);
+                box.told(0, i / 6, 1);
+                box.told(1, i % 6, 1);
+                c.due("one way", box.fits(-1), 1);
+                for (int x = 0; x < 6; x++) {
+                    c.due("x " + x, box.fits(x), x == i / 6 ? 1 << i % 6 : 0);
+                }
+            }
+        });
+        e.edge(32, "the first as a row of sets of y, by x", "each x has as many as none other", c -> {
+            int[] byX = {4, 0, 3, 5, 1, 2};
+            fits(c, counts(BoxTest.box(6, 5, 1), byX, new int[] {5, 4, 3, 2, 1}), 1, 15, 0, 7, 31, 1, 3, -1);
+            int[] back = {1, 5, 2, 0, 4, 3};
+            fits(c, counts(BoxTest.box(6, 5, 1), back, new int[] {1, 2, 3, 4, 5}), 1, 16, 31, 24, 0, 30, 28, -1);
         });
         e.edge(32, "HOLES right through along z, at PLACES of which", "HOLES and a LAW that stand are aside", c -> {
             CheeseCube box = counts(BoxTest.box(2, 2, 2), new int[] {1, 1}, new int[] {1, 1});

@@ -54,6 +54,14 @@ final class EdgesOfSearch {
             Edges.none(c, box, "fewest", 0, 1, -1);
             Edges.none(c, box, "fewest", 0, 1, 8);
             Edges.noneFar(c, box, 2, "fewest", 0, 1, 0);
+            c.due("two HOLES", box.fewest(2, 4, 7), 1);
+            Edges.none(c, box, "fewest", 2, 4, -1);
+            Edges.none(c, box, "fewest", 2, 4, 8);
+            c.due("one HOLE", box.fewest(2, 6, 4), 0);
+            for (int what = 5; what <= 8; what++) {
+                Edges.none(c, box, "fewest", 2, 6, what);
+                Edges.none(c, box, "fewest", 2, 8, what);
+            }
         });
         e.edge(23, "in how many ways (1; 0)", "none HOLE needed is one way, what can't be is none", c -> {
             CheeseCube box = BoxTest.box(2, 2, 2);
@@ -128,6 +136,22 @@ final class EdgesOfSearch {
             fewest(c, under(BoxTest.box(3, 3, 3), "takes if not (z=1 and (x=0 or x=2))"), 2, 0, 2, 1, 1, 0, 1, 1, 2, 1);
             fewest(c, under(BoxTest.box(3, 3, 3), "takes if not (y=2 and z=0 or x=0 and y=1)"), 2, 0, 2, 1, 0, 2, 0, 2, 0, 1);
             fewest(c, under(BoxTest.box(2, 2, 2), "takes if not (x+y+z=0 or x+y+z=3)"), 2, 0, 2, 9, 0, 0, 0, 0, 1, 1);
+        });
+        e.edge(23, "HOLES in order of AXIS, then u, then v", "each of the 108 lines of a BOX of six, the only one", c -> {
+            String[] names = {"y=%d and z=%d", "x=%d and z=%d", "x=%d and y=%d"};
+            for (int i = 0; i < 108; i++) {
+                String test = String.format(names[i / 36], i / 6 % 6, i % 6);
+                CheeseCube box = under(BoxTest.box(6, 6, 6), "takes if not (" + test + ")");
+                fewest(c, box, 2, 0, 1, 1, i / 36, i / 6 % 6, i % 6);
+            }
+        });
+        e.edge(23, "right through along an AXIS", "all lines of BOXES of unlike SIZES, no other ones", c -> {
+            for (int size = 2; size <= 6; size++) {
+                fewest(c, BoxTest.box(size, 1, 1), 2, size - 1, 1, 2 * size, 1, 0, 0);
+                fewest(c, BoxTest.box(1, size, 1), 2, size - 1, 1, 2 * size, 0, 0, 0);
+                fewest(c, BoxTest.box(1, 1, size), 2, size - 1, 1, 2 * size, 0, 0, 0);
+                fewest(c, BoxTest.box(1, 1, size), 2, 0, 1, 1, 2, 0, 0);
+            }
         });
         e.edge(23, "at most 2 HOLES more, right through along an AXIS", "beside 16 HOLES that stand", c -> {
             CheeseCube box = BoxTest.box(3, 3, 3);
@@ -207,6 +231,19 @@ final class EdgesOfSearch {
             large.hole(2, 4, 0, 0, 1, 0);
             c.due("60 and 62", large.wire(-2), 1);
         });
+        e.edge(27, "CELLS of which x, y, z together are even, and odd", "two neighbours at each of the 540 sides", c -> {
+            int[] step = {1, 6, 36};
+            for (int i = 0; i < 648; i++) {
+                int cell = i % 216;
+                int other = cell + step[i / 216];
+                if (cell / step[i / 216] % 6 < 5 && (cell % 6 > 3 || cell % 36 > 28 || cell > 170 || cell % 5 == 0)) {
+                    String test = "takes if not (x+6*y+36*z=" + cell + " or x+6*y+36*z=" + other + ")";
+                    wire(c, under(BoxTest.box(6, 6, 6), test), 0, 1, cell, other, -1);
+                }
+            }
+            wire(c, under(BoxTest.box(6, 6, 6), "takes if not (x=5 and y=5)"), 0, 1, 35, 71, 107, 143, 179, 215, -1);
+            wire(c, under(BoxTest.box(6, 6, 6), "takes if not (x=y and x=z)"), 1, 0, -1);
+        });
         e.edge(27, "or there are PIECES", "one is none, two bar", c -> {
             c.due("one", BoxTest.box(4, 1, 1).wire(-2), 0);
             CheeseCube two = BoxTest.box(4, 1, 1);
@@ -236,6 +273,15 @@ final class EdgesOfSearch {
             wire(c, BoxTest.box(1, 6, 2), 0, 1, 0, 6, 12, 18, 24, 30, 66, 60, 54, 48, 42, 36, -1);
             wire(c, under(BoxTest.box(3, 2, 1), "takes if x=0 and y=1"), 0, 1, 0, 1, 2, 8, 7, -1);
             wire(c, under(BoxTest.box(3, 3, 1), "takes if x=0 and y=0"), 0, 1, 1, 2, 8, 7, 6, 12, 13, 14, -1);
+        });
+        e.edge(27, "once each, from neighbour to neighbour, from any", "not from the lowest, not by the lowest neighbour", c -> {
+            wire(c, under(BoxTest.box(3, 2, 1), "takes if x=0 and y=0 or x=2 and y=1"), 0, 1, 2, 1, 7, 6, -1);
+            wire(c, under(BoxTest.box(3, 3, 1), "takes if x=0 or x=1 and y=0"), 0, 1, 2, 8, 7, 13, 14, -1);
+            wire(c, under(BoxTest.box(3, 1, 2), "takes if z=0 and x=1"), 0, 1, 0, 36, 37, 38, 2, -1);
+            wire(c, under(BoxTest.box(1, 3, 2), "takes if z=0 and y=1"), 0, 1, 0, 36, 42, 48, 12, -1);
+            wire(c, under(BoxTest.box(3, 2, 1), "takes if y=0 and x=1"), 0, 1, 0, 6, 7, 8, 2, -1);
+            wire(c, under(BoxTest.box(3, 2, 1), "takes if y=1 and x=1"), 0, 1, 6, 0, 1, 2, 8, -1);
+            wire(c, under(BoxTest.box(2, 1, 3), "takes if x=1 and z=1"), 0, 1, 1, 0, 36, 72, 73, -1);
         });
         e.edge(27, "from neighbour to neighbour", "the end of a row and the next row's first are none", c -> {
             wire(c, under(BoxTest.box(6, 2, 1), "takes if not (x=5 and y=0 or x=0 and y=1)"), 1, 0, -1);
@@ -297,6 +343,18 @@ final class EdgesOfSearch {
             ant(c, under(BoxTest.box(2, 2, 1), "shuts if not x=y"), 0, 7);
             ant(c, under(BoxTest.box(6, 2, 1), "takes if x>0 and x<5"), 5, 6);
             ant(c, under(BoxTest.box(6, 6, 2), "takes if y>0 and y<5"), 35, 36);
+        });
+        e.edge(33, "STEPS (from CELL to neighbour)", "each of the 540 sides within a BOX of six", c -> {
+            int[] step = {1, 6, 36};
+            for (int axis = 0; axis < 3; axis++) {
+                CheeseCube box = BoxTest.box(6, 6, 6);
+                for (int cell = 0; cell < 216; cell++) {
+                    if (cell / step[axis] % 6 < 5) {
+                        c.due("up from " + cell, box.ant(cell, cell + step[axis], -1), 1);
+                        c.due("down to " + cell, box.ant(cell + step[axis], cell, -1), 1);
+                    }
+                }
+            }
         });
         e.edge(33, "the first as a row of CELLS", "of ways as short, the lower CELL at each STEP", c -> {
             CheeseCube box = BoxTest.box(2, 2, 2);

@@ -139,6 +139,13 @@ final class EdgesOfTape {
             c.due("status", box.status(), 0);
             c.due("TAPE", box.count(7), 0);
         });
+        e.edge(8, "A ROW, the TAPE is empty then: how many came.", "what they go through is not LEFT at once", c -> {
+            CheeseCube box = new CheeseCube();
+            Tape.put(box, 2, 4, 4, 0, 6, 1, 2, 9, 9, 0, 6, 1);
+            box.row();
+            c.due("LEFT", box.left(0), 120);
+            c.due("the last CELL", box.cell(144 + 24 + 4, 3), 1);
+        });
         e.edge(8, "AXIS, u, v, END, DEEP, LEANING and 1", "the least and the greatest of each", c -> {
             CheeseCube box = BoxTest.box(6, 6, 6);
             Tape.put(box, 0, 0, 0, 0, 1, 0, 2, 5, 5, 1, 6, 2);

@@ -74,6 +74,14 @@ final class EdgesOfVast {
             c.due("three lines that meet", box.vast(1000, 1000, 1000), 1000000000L - 2998);
             c.due("in the BOX", box.vast(5, 5, 5), 125 - 13);
         });
+        e.edge(16, "each right through", "two lines of each two AXES, in the one PLACE that they share", c -> {
+            int[][] pairs = {{0, 1, 2, 1, 3, 2}, {0, 1, 2, 2, 3, 1}, {1, 3, 2, 2, 3, 1}};
+            int[][] apart = {{0, 1, 2, 1, 3, 1}, {0, 1, 2, 2, 3, 2}, {1, 3, 2, 2, 2, 1}};
+            for (int i = 0; i < 3; i++) {
+                c.due("meet", twoLines(pairs[i]).vast(10, 10, 10), 1000 - 19);
+                c.due("pass", twoLines(apart[i]).vast(10, 10, 10), 1000 - 20);
+            }
+        });
         e.edge(16, "each right through", "lines of two AXES that meet, that pass by one another", c -> {
             CheeseCube box = new CheeseCube();
             box.hole(0, 1, 2, 0, 1, 0);
@@ -87,6 +95,13 @@ final class EdgesOfVast {
             c.due("meets two apart", box.vast(10, 10, 10), 1000 - 29 - 8 - 8);
             c.due("without z 2, z 3", box.vast(10, 10, 2), 200 - 4);
         });
+    }
+
+    private static CheeseCube twoLines(int[] lines) {
+        CheeseCube box = new CheeseCube();
+        box.hole(lines[0], lines[1], lines[2], 0, 1, 0);
+        box.hole(lines[3], lines[4], lines[5], 0, 1, 0);
+        return box;
     }
 
     private static void dipped(Edges e) {
@@ -174,6 +189,20 @@ final class EdgesOfVast {
             c.due("2 1 1, its ends", BoxTest.box(2, 1, 1).anew(1 + 2), 2);
             c.due("2 1 1, a long SIDE", BoxTest.box(2, 1, 1).anew(4), 2);
             c.due("2 1 1, two long SIDES", BoxTest.box(2, 1, 1).anew(4 + 16), 0);
+        });
+        e.edge(26, "the BOX dipped on SIDES", "all SIDES of all BOXES up to three, beside the model, asked of one object", c -> {
+            CheeseCube box = new CheeseCube();
+            Model model = new Model();
+            for (int shape = 0; shape < 27; shape++) {
+                int[] sizes = {1 + shape % 3, 1 + shape / 3 % 3, 1 + shape / 9};
+                for (int axis = 0; axis < 3; axis++) {
+                    box.terms(axis, sizes[axis]);
+                    model.terms(axis, sizes[axis]);
+                }
+                for (int sides = 63; sides >= 0; sides--) {
+                    c.due("anew(" + sides + ") of shape " + shape, box.anew(sides), model.anew(sides));
+                }
+            }
         });
         e.edge(26, "(whole, no HOLES)", "a BOX with HOLES and a LAW", c -> {
             CheeseCube box = BoxTest.box(2, 2, 2);

@@ -117,6 +117,15 @@ final class EdgesOfViews {
                 }
             }
         });
+        e.edge(25, "it CAN be, if each dark one has one", "each of the 108 VIEWS dark alone", c -> {
+            CheeseCube box = BoxTest.box(6, 6, 6);
+            for (int i = 0; i < 108; i++) {
+                box.view(i / 36, i / 6 % 6, i % 6, 1);
+                c.due("dark " + i, box.views(1), 0);
+                box.view(i / 36, i / 6 % 6, i % 6, 0);
+            }
+            c.due("all light", box.views(1), 1);
+        });
         e.edge(25, "(those at PLACES in the BOX as it is; others are left aside, in the LEAST, too)", "the PLACE behind the last", c -> {
             for (int axis = 0; axis < 3; axis++) {
                 CheeseCube box = seen(BoxTest.box(2, 2, 2), 1, 1, 1, 1);
@@ -189,6 +198,22 @@ final class EdgesOfViews {
             views(c, dark(BoxTest.box(2, 2, 1)), 4, 1, 1, 4);
             views(c, dark(BoxTest.box(2, 2, 2)), 8, 1, 1, 4);
             views(c, dark(BoxTest.box(3, 2, 2)), 12, 1, 1, 6);
+        });
+        e.edge(25, "so that just the dark ones are dark", "a CELL in a light row would do with four of them", c -> {
+            int[][] cells = {{0, 0, 0}, {0, 0, 1}, {0, 1, 1}, {1, 0, 0}, {1, 2, 0}};
+            int[][] orders = {{0, 1, 2}, {0, 2, 1}, {1, 0, 2}, {1, 2, 0}, {2, 0, 1}, {2, 1, 0}};
+            for (int i = 0; i < 48; i++) {
+                CheeseCube box = BoxTest.box(3, 3, 3);
+                for (int[] cell : cells) {
+                    int[] xyz = new int[3];
+                    for (int axis = 0; axis < 3; axis++) {
+                        int at = cell[orders[i / 8][axis]];
+                        xyz[axis] = (i >> axis & 1) == 0 ? at : 2 - at;
+                    }
+                    seen(box, xyz[0], xyz[1], xyz[2], 1);
+                }
+                views(c, box, 5, 1, 2, 5);
+            }
         });
         e.edge(25, "others are left aside, in the LEAST, too", "all 108 are dark in a smaller BOX", c -> {
             CheeseCube box = dark(BoxTest.box(1, 1, 1));
