@@ -77,6 +77,7 @@ public final class AllTests {
         test("promise 27: wires", checks -> DrawnTest.wires(checks, 5 * runs, seed));
         test("promise 33: ants", checks -> DrawnTest.ants(checks, 2 * runs, seed));
         test("the public face", SourceTest::face);
+        test("LANGUAGE.md: room", RoomTest::run);
         test("LANGUAGE.md: classes, fields, parameters", SourceTest::shape);
         test("LANGUAGE.md: words", SourceTest::words);
         if (failed > 0) {

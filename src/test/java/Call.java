@@ -1,7 +1,13 @@
 import java.util.Arrays;
+import java.util.List;
 
 /** One call of the face, by its name and numbers, on the class or on the model. */
 record Call(String name, int... with) {
+    static final List<String> NAMES = List.of("hole", "stop", "of", "terms", "feed", "end", "row", "rinds", "law",
+        "fault", "force", "cell", "left", "slice", "vast", "tally", "forget", "judge", "wax", "dipped", "pieces",
+        "fewest", "view", "views", "anew", "wire", "screw", "unscrew", "meet", "told", "fits", "ant", "feast",
+        "drawn", "image", "back", "count", "status");
+
     long on(CheeseCube c) {
         int[] a = Arrays.copyOf(with, 6);
         switch (name) {

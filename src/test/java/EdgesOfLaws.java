@@ -406,6 +406,15 @@ final class EdgesOfLaws {
             c.due("neither", box.cell(2, 2), 0);
             c.due("SHUT is still LEFT", under("shuts").left(0), 125);
         });
+        e.edge(13, "CELLS x, y, z from 0 on (CELL 36 z and 6 y and x)", "each number from -50 to 260 in BOXES of each SIZE", c -> {
+            for (int size = 1; size <= 6; size++) {
+                CheeseCube box = BoxTest.box(size, 7 - size, 1 + size % 6);
+                for (int cell = -50; cell <= 260; cell++) {
+                    boolean there = cell >= 0 && cell % 6 < size && cell / 6 % 6 < 7 - size && cell / 36 < 1 + size % 6;
+                    c.due("cell(" + cell + ")", box.cell(cell, 0), there ? 1 : -1);
+                }
+            }
+        });
         e.edge(13, "NONE.", "what is no CELL of the BOX, what -1 and 4", c -> {
             CheeseCube box = BoxTest.box(2, 3, 4);
             for (int what = 0; what <= 3; what++) {

@@ -5,10 +5,6 @@ final class ExtremeTest {
     private static final int[] NUMBERS = {Integer.MIN_VALUE, Integer.MIN_VALUE + 1, -1000000007, -7, -2, -1, 0, 0, 0, 1,
         1, 2, 3, 4, 5, 6, 7, 8, 15, 16, 36, 63, 64, 215, 216, 217, 1000, 1001, 1000000, 1000001, 65535, 0x40000000,
         Integer.MAX_VALUE - 1, Integer.MAX_VALUE};
-    private static final String[] NAMES = {"hole", "stop", "of", "terms", "feed", "end", "row", "rinds", "law",
-        "fault", "force", "cell", "left", "slice", "vast", "tally", "forget", "judge", "wax", "dipped", "pieces",
-        "fewest", "view", "views", "anew", "wire", "screw", "unscrew", "meet", "told", "fits", "ant", "feast",
-        "drawn", "image", "back", "count", "status"};
 
     private ExtremeTest() {
     }
@@ -32,7 +28,7 @@ final class ExtremeTest {
             for (int k = 0; k < with.length; k++) {
                 with[k] = random.nextInt(40) == 0 ? random.nextInt() : NUMBERS[random.nextInt(NUMBERS.length)];
             }
-            Call call = new Call(NAMES[random.nextInt(NAMES.length)], with);
+            Call call = new Call(Call.NAMES.get(random.nextInt(Call.NAMES.size())), with);
             if (!tooLarge(call, model)) {
                 c.due(call.toString(), call.on(object), call.on(model));
                 c.due("status behind " + call, object.status(), model.status());
