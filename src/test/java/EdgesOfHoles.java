@@ -30,6 +30,10 @@ final class EdgesOfHoles {
             c.due("z 5", box.cell(180, 0), -1);
             c.due("LEFT", box.left(0), 125);
         });
+        e.edge(1, "`NONE = -1`: There is none.", "the constant", c -> {
+            c.due("NONE", CheeseCube.NONE, -1);
+            c.due("no LAW in FORCE", new CheeseCube().count(13), CheeseCube.NONE);
+        });
         e.edge(1, "(5 each at first)", "three SIZES", c -> {
             for (int axis = 0; axis < 3; axis++) {
                 c.due("SIZE " + axis, new CheeseCube().terms(axis, 6), 5);
@@ -109,6 +113,19 @@ final class EdgesOfHoles {
                 Edges.refused(c, box, -1, "hole", axis, u, -1, 0, 1, 0);
                 Edges.refusedFar(c, box, -1, 1, "hole", axis, 0, 0, 0, 1, 0);
                 Edges.refusedFar(c, box, -1, 2, "hole", axis, 0, 0, 0, 1, 0);
+            }
+        });
+        e.edge(2, "at PLACES u, v (the other two of x, y, z, in this order)", "the last of each, in BOXES of one but for it", c -> {
+            int[][] due = {{-1, 0, 0}, {0, -1, 1}, {1, 1, -1}};
+            for (int axis = 0; axis < 3; axis++) {
+                for (int other = 0; other < 3; other++) {
+                    int[] size = {1, 1, 1};
+                    size[other] = 6;
+                    CheeseCube box = BoxTest.box(size[0], size[1], size[2]);
+                    c.due("u of " + axis + " is " + other, box.hole(axis, 5, 0, 0, 1, 0), due[other][axis] == 0 ? 0 : -1);
+                    c.due("v of " + axis + " is " + other, box.hole(axis, 0, 5, 0, 1, 0) >= 0 ? 1 : 0,
+                            due[other][axis] == 1 ? 1 : 0);
+                }
             }
         });
         e.edge(2, "from an END (0: from 0 up, 1: from the greatest down)", "-1 and 2 can't be", c -> {

@@ -384,6 +384,19 @@ final class EdgesOfKeeping {
             box.back(1);
             c.due("a REFUSED back()", box.count(8), 2);
         });
+        e.edge(38, "-3 it can't be by what stands", "no call is REFUSED by it, be the object full or empty", c -> {
+            CheeseCube box = new CheeseCube();
+            for (int round = 0; round < 2; round++) {
+                for (String name : Call.NAMES) {
+                    for (int with = -1; with <= 7; with++) {
+                        new Call(name, with, with, with, with, with, with).on(box);
+                        c.holds(name + " with " + with, box.status() != -3);
+                    }
+                }
+                fill(box);
+            }
+            c.due("count(10)", box.count(10), 0);
+        });
         e.edge(38, "13 the LAW in FORCE, 14 DAY", "NONE, the last LAW, the last DAY", c -> {
             CheeseCube box = new CheeseCube();
             c.due("NONE", box.count(13), -1);

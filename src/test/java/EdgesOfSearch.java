@@ -204,6 +204,15 @@ final class EdgesOfSearch {
             c.due("five CELLS", fork.left(0), 5);
             wire(c, fork, 0, 0, -1, -1);
         });
+        e.edge(27, "whether it is barred (i -2: 1, 0), whether there is one (i NONE: 1, 0; NONE: more than 14 CELLS and not barred)",
+                "all that can be", c -> {
+            wire(c, BoxTest.box(2, 2, 2), 0, 1);
+            wire(c, under(BoxTest.box(3, 3, 1), "takes if not (x=0 or y=1)"), 0, 0);
+            wire(c, under(BoxTest.box(3, 1, 1), "takes if x=1"), 1, 0);
+            wire(c, BoxTest.box(4, 4, 1), 0, -1);
+            wire(c, under(BoxTest.box(4, 4, 2), "takes if x=1 or x=2 and y=0"), 1, 0);
+            wire(c, BoxTest.box(6, 6, 6), 0, -1);
+        });
         e.edge(27, "goes through all CELLS that are LEFT", "none LEFT, one, two", c -> {
             CheeseCube none = BoxTest.box(1, 1, 1);
             none.hole(0, 0, 0, 0, 1, 0);
