@@ -80,6 +80,8 @@ public final class AllTests {
         test("LANGUAGE.md: room", RoomTest::run);
         test("LANGUAGE.md: classes, fields, parameters", SourceTest::shape);
         test("LANGUAGE.md: words", SourceTest::words);
+        test("README.md: its examples", ReadmeTest::examples);
+        test("README.md: it names every call", ReadmeTest::calls);
         if (failed > 0) {
             System.exit(1);
         }
