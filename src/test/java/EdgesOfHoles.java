@@ -232,6 +232,22 @@ final class EdgesOfHoles {
             c.due("4 stays", 10 * box.of(4, 1) + box.of(4, 2), 1);
             c.due("5 was 6", 10 * box.of(5, 1) + box.of(5, 2), 21);
         });
+        e.edge(3, "those behind it move up", "with all six numbers of each", c -> {
+            int[][] holes = {{0, 1, 4, 0, 2, -1}, {1, 3, 0, 1, 5, 0}, {2, 2, 3, 0, 1, 1}, {0, 4, 2, 1, 6, 1}};
+            for (int gone = 0; gone < holes.length; gone++) {
+                CheeseCube box = new CheeseCube();
+                for (int[] hole : holes) {
+                    new Call("hole", hole).on(box);
+                }
+                box.stop(gone);
+                for (int i = 0; i < 3; i++) {
+                    int[] due = holes[i < gone ? i : i + 1];
+                    for (int what = 0; what < 6; what++) {
+                        c.due(i + " without " + gone + ", " + what, box.of(i, what), due[what] + (what == 5 ? 1 : 0));
+                    }
+                }
+            }
+        });
         e.edge(3, "how many are left", "0 behind the last one", c -> {
             CheeseCube box = withHoles(2);
             c.due("one", box.stop(1), 1);

@@ -158,6 +158,15 @@ final class EdgesOfTape {
             }
             c.due("no RIND", box.rinds(), 0);
         });
+        e.edge(8, "AXIS, u, v, END, DEEP, LEANING and 1", "six bytes that are all unlike", c -> {
+            CheeseCube box = new CheeseCube();
+            int[] bytes = {0, 3, 4, 1, 5, 2, 2, 4, 3, 0, 5, 1};
+            Tape.put(box, bytes);
+            c.due("both", box.row(), 2);
+            for (int i = 0; i < bytes.length; i++) {
+                c.due("byte " + i, box.of(i / 6, i % 6), bytes[i]);
+            }
+        });
         e.edge(8, "one that can't be", "each byte one too many, DEEP 0, 128, 255", c -> {
             int[] good = {1, 1, 1, 1, 1, 1};
             int[] most = {2, 4, 4, 1, 6, 2};

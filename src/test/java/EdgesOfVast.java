@@ -6,6 +6,7 @@ final class EdgesOfVast {
     static void all(Edges e) {
         vast(e);
         vastHoles(e);
+        vastMeetings(e);
         dipped(e);
         anew(e);
     }
@@ -94,6 +95,78 @@ final class EdgesOfVast {
             box.hole(2, 3, 2, 0, 1, 0);
             c.due("meets two apart", box.vast(10, 10, 10), 1000 - 29 - 8 - 8);
             c.due("without z 2, z 3", box.vast(10, 10, 2), 200 - 4);
+        });
+    }
+
+    private static void vastMeetings(Edges e) {
+        e.edge(16, "those whose PLACES are not there aside", "three lines that meet in x 3, y 1, z 2: with it, one short of it", c -> {
+            int[][] lines = {{0, 1, 2}, {1, 3, 2}, {2, 3, 1}};
+            int[][] orders = {{0, 1, 2}, {0, 2, 1}, {1, 0, 2}, {1, 2, 0}, {2, 0, 1}, {2, 1, 0}};
+            for (int[] order : orders) {
+                CheeseCube box = new CheeseCube();
+                for (int line : order) {
+                    box.hole(lines[line][0], lines[line][1], lines[line][2], 0, 1, 0);
+                }
+                for (int i = 0; i < 27; i++) {
+                    int x = 3 + i % 3;
+                    int y = 1 + i / 3 % 3;
+                    int z = 2 + i / 9;
+                    int taken = (y > 1 && z > 2 ? x : 0) + (x > 3 && z > 2 ? y : 0) + (x > 3 && y > 1 ? z : 0);
+                    int again = x > 3 && y > 1 && z > 2 ? 2 : 0;
+                    c.due(x + " " + y + " " + z, box.vast(x, y, z), x * y * z - taken + again);
+                }
+            }
+        });
+        e.edge(16, "those whose PLACES are not there aside", "two lines that meet, of each two AXES", c -> {
+            int[][] lines = {{0, 1, 2}, {1, 3, 2}, {2, 3, 1}};
+            for (int i = 0; i < 6 * 27; i++) {
+                int one = i / 54;
+                int other = (one + 1 + i / 27 % 2) % 3;
+                int[] sizes = {3 + i % 3, 1 + i / 3 % 3, 2 + i / 9 % 3};
+                boolean[] there = {sizes[1] > 1 && sizes[2] > 2, sizes[0] > 3 && sizes[2] > 2, sizes[0] > 3 && sizes[1] > 1};
+                int taken = (there[one] ? sizes[one] : 0) + (there[other] ? sizes[other] : 0);
+                CheeseCube box = twoLines(new int[] {lines[one][0], lines[one][1], lines[one][2],
+                    lines[other][0], lines[other][1], lines[other][2]});
+                c.due("lines " + one + " and " + other + " in " + sizes[0] + " " + sizes[1] + " " + sizes[2],
+                        box.vast(sizes[0], sizes[1], sizes[2]),
+                        sizes[0] * sizes[1] * sizes[2] - taken + (there[one] && there[other] ? 1 : 0));
+            }
+        });
+        e.edge(16, "each right through", "two, three lines that meet in the last CELL of the box, wherever that is", c -> {
+            for (int cell = 0; cell < 125; cell++) {
+                int x = cell % 5;
+                int y = cell / 5 % 5;
+                int z = cell / 25;
+                int[][] lines = {{0, y, z}, {1, x, z}, {2, x, y}};
+                int[] sizes = {x + 1, y + 1, z + 1};
+                int whole = sizes[0] * sizes[1] * sizes[2];
+                for (int one = 0; one < 3; one++) {
+                    int other = (one + 1) % 3;
+                    int third = (one + 2) % 3;
+                    CheeseCube box = twoLines(new int[] {lines[one][0], lines[one][1], lines[one][2],
+                        lines[other][0], lines[other][1], lines[other][2]});
+                    int two = whole - sizes[one] - sizes[other] + 1;
+                    c.due("two in " + x + " " + y + " " + z, box.vast(sizes[0], sizes[1], sizes[2]), two);
+                    box.hole(third, lines[third][1], lines[third][2], 0, 1, 0);
+                    int three = two - sizes[third] + 1;
+                    c.due("three in " + x + " " + y + " " + z, box.vast(sizes[0], sizes[1], sizes[2]), three);
+                }
+            }
+        });
+        e.edge(16, "how many CELLS are left", "lines that meet by threes, twice, in a box of unlike sizes", c -> {
+            int[][] lines = {{1, 3, 2}, {2, 4, 1}, {0, 1, 2}, {2, 3, 1}, {1, 4, 2}};
+            for (int first = 0; first < 5; first++) {
+                CheeseCube box = new CheeseCube();
+                for (int i = 0; i < 5; i++) {
+                    int[] line = lines[(first + i) % 5];
+                    box.hole(line[0], line[1], line[2], 0, 1, 0);
+                }
+                c.due("two by threes", box.vast(5, 6, 7), 210 - 5 - 2 * 5 - 2 * 6);
+                c.due("without x 4", box.vast(4, 6, 7), 168 - 4 - 5 - 6);
+                c.due("without z 2", box.vast(5, 6, 2), 60 - 2 * 2);
+                c.due("without y 1", box.vast(5, 1, 7), 35 - 2);
+                c.due("as vast as it may be", box.vast(998, 999, 1000), 998L * 999 * 1000 - 998 - 2 * 998 - 2 * 999);
+            }
         });
     }
 

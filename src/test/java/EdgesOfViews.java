@@ -215,6 +215,21 @@ final class EdgesOfViews {
                 views(c, box, 5, 1, 2, 5);
             }
         });
+        e.edge(25, "just the dark ones are dark", "five of the MOST's six; four with one in a light row, at any place", c -> {
+            int[][] cells = {{0, 0, 0}, {1, 0, 0}, {0, 1, 0}, {1, 0, 1}, {1, 1, 1}};
+            int[][] orders = {{0, 1, 2}, {0, 2, 1}, {1, 0, 2}, {1, 2, 0}, {2, 0, 1}, {2, 1, 0}};
+            for (int i = 0; i < 8 * 8 * 6; i++) {
+                CheeseCube box = BoxTest.box(3, 3, 3);
+                for (int[] cell : cells) {
+                    int[] xyz = new int[3];
+                    for (int axis = 0; axis < 3; axis++) {
+                        xyz[axis] = (cell[orders[i / 64][axis]] ^ i >> axis & 1) + (i >> 3 + axis & 1);
+                    }
+                    seen(box, xyz[0], xyz[1], xyz[2], 1);
+                }
+                views(c, box, 6, 1, 1, 5);
+            }
+        });
         e.edge(25, "others are left aside, in the LEAST, too", "all 108 are dark in a smaller BOX", c -> {
             CheeseCube box = dark(BoxTest.box(1, 1, 1));
             views(c, box, 1, 1, 1, 1);
